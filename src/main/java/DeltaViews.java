@@ -37,8 +37,8 @@ public final class DeltaViews {
 
     public DeltaViews() {
         for (int v = 0; v < MOST_VIEWS; v++) {
-            // A place for a view to come is a table that no change names, so that none is null.
-            views[v] = new View(new Table(batch, v));
+            // The place of a view to come is an empty table till then, so that none is null.
+            views[v] = new View(new Table());
         }
     }
 
@@ -222,6 +222,7 @@ public final class DeltaViews {
     private boolean renewViews() {
         for (int v = 0; v < count; v++) {
             views[v].renew();
+            batch.addTo(v, views[v].now);
             if (!views[v].keepsLimits()) {
                 takeBack(v);
                 return false;
@@ -263,9 +264,10 @@ public final class DeltaViews {
             return had;
         }
 
-        void addTo(int tableNumber, Bag out) {
+        /** Adds what there is for a view; that is nothing when the view is no table. */
+        void addTo(int view, Bag out) {
             for (int c = 0; c < size; c++) {
-                if (table[c] == tableNumber) {
+                if (table[c] == view) {
                     out.put(0, a[c]);
                     out.put(1, b[c]);
                     out.add(by[c]);
@@ -464,7 +466,7 @@ public final class DeltaViews {
 
     /** What makes the bag of a view. */
     private abstract static class Operation {
-        /** Fills the bag out, whatever it held; a table alone is made of what it was before. */
+        /** Fills the bag out, whatever it held; only a table is made of what it was before. */
         abstract void fill(Bag before, Bag out);
 
         boolean allows(Bag bag) {
@@ -472,18 +474,10 @@ public final class DeltaViews {
         }
     }
 
+    /** A table stays what it is; it is the batch that changes it. */
     private static final class Table extends Operation {
-        private final Batch batch;
-        private final int number;
-
-        Table(Batch batch, int number) {
-            this.batch = batch;
-            this.number = number;
-        }
-
         void fill(Bag before, Bag out) {
             out.copy(before);
-            batch.addTo(number, out);
         }
 
         boolean allows(Bag bag) {

@@ -5,7 +5,8 @@ public final class CommitTest {
         changesOfTheSameRowAreAdded();
         multiplicitiesKeepTheirRange();
         tablesKeepTheirRows();
-        viewsKeepTheirRows();
+        unionsKeepTheirRows();
+        joinsKeepTheirRows();
         viewsFollowFromTheTablesUpward();
         Check.end();
     }
@@ -92,41 +93,57 @@ public final class CommitTest {
         Check.due("first", x.cell(0, 0, 0), 5);
     }
 
-    private static void viewsKeepTheirRows() {
+    private static void unionsKeepTheirRows() {
         DeltaViews x = new DeltaViews();
-        for (int table = 0; table < 3; table++) {
-            for (int n = 0; n < 6; n++) {
-                x.change(table, table, n, 1);
-            }
-            x.commit();
-        }
-        int two = x.union(0, 1);
-        int three = x.select(two, 1, 2, 3);
-        int all = x.group(two, 1, 0, 0);
-        Check.bag("before", x, all, 2, Check.row(0, 6, 1), Check.row(1, 6, 1));
-        for (int n = 6; n < 8; n++) {
+        for (int n = 0; n < 8; n++) {
             x.change(0, 0, n, 1);
+        }
+        x.commit();
+        for (int n = 0; n < 7; n++) {
             x.change(1, 1, n, 1);
         }
-        Check.due("sixteen rows in a view", x.commit(), 4);
-        Check.due("sixteen", x.rows(two), 16);
-        x.drop();
-        x.drop();
-        x.drop();
+        x.commit();
+        int two = x.union(0, 1);
+        int three = x.union(two, 2);
+        int counts = x.group(three, 1, 0, 0);
+        x.change(2, 2, 2, 9);
+        Check.due("sixteen", x.commit(), 1);
+        x.change(1, 1, 7, 1);
+        Check.state("seventeen in the upper of two views", () -> x.commit());
+        Check.due("fifteen still", x.rows(two), 15);
+        Check.due("sixteen still", x.rows(three), 16);
+        Check.due("the table", x.rows(1), 7);
+        Check.bag("as before", x, counts, 2,
+                Check.row(0, 8, 1), Check.row(1, 7, 1), Check.row(2, 9, 1));
+        Check.due("moved as before", x.moved(counts), 1);
+        x.change(1, 1, 7, 1);
+        x.change(2, 2, 2, -9);
+        Check.due("one comes before one goes", x.commit(), 2);
+        Check.bag("sixteen", x, counts, 2, Check.row(0, 8, 1), Check.row(1, 8, 1));
+        Check.due("moved", x.moved(counts), 3);
+    }
+
+    private static void joinsKeepTheirRows() {
+        DeltaViews x = new DeltaViews();
+        for (int n = 0; n < 8; n++) {
+            x.change(0, 0, n, 1);
+        }
+        x.commit();
+        Check.commitTo(x, 2, Check.r(2, 5, 1));
         int join = x.join(0, 2, 0, 0);
         int count = x.group(0, 1, 0, 0);
         int last = x.distinct(join);
         Check.due("nothing to join", x.rows(join), 0);
         x.change(2, 0, 7, 1);
         x.change(2, 0, 8, 1);
-        Check.due("sixteen rows in a join", x.commit(), 2);
+        Check.due("sixteen", x.commit(), 2);
         Check.due("sixteen", x.rows(join), 16);
         Check.due("sixteen above", x.rows(last), 16);
         x.change(2, 0, 7, 1);
         x.change(0, 0, 0, 1);
         x.change(2, 2, 5, -1);
         x.change(2, 0, 9, 1);
-        Check.state("24 rows in a join", () -> x.commit());
+        Check.state("24", () -> x.commit());
         Check.due("sixteen still", x.rows(join), 16);
         Check.due("times as before", x.many(join, 0, 0, 0, 7), 1);
         Check.due("table as before", x.many(0, 0, 0, 0, 0), 1);
@@ -135,19 +152,15 @@ public final class CommitTest {
         Check.due("moved above as before", x.moved(last), 16);
         Check.due("moved of another as before", x.moved(count), 0);
         Check.due("batch", x.cancel(), 0);
-        for (int n = 0; n < 6; n++) {
-            x.change(2, 2, n, -1);
-        }
-        Check.due("make room", x.commit(), 6);
+        x.change(2, 2, 5, -1);
         for (int n = 10; n < 16; n++) {
             x.change(2, 0, n, 1);
         }
-        Check.state("64 rows in a join", () -> x.commit());
-        Check.due("and now one less", x.many(last, 0, 7, 0, 8), 1);
+        Check.state("64", () -> x.commit());
+        Check.due("as before", x.many(last, 0, 7, 0, 8), 1);
         x.change(0, 0, 7, -1);
-        Check.due("less rows", x.commit(), 1);
+        Check.due("one less", x.commit(), 1);
         Check.due("fourteen", x.rows(last), 14);
-        Check.due("unused", three, 4);
     }
 
     private static void viewsFollowFromTheTablesUpward() {

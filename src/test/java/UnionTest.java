@@ -4,6 +4,7 @@ public final class UnionTest {
         multiplicitiesAreAdded();
         tooManyRows();
         sumsThatWrapToZero();
+        rowsThatCancelOutMakeRoom();
         wrongInputs();
         Check.end();
     }
@@ -70,6 +71,41 @@ public final class UnionTest {
         x.commit();
         Check.bag("less", x, twice, 4, Check.row(1, 1, 1, 1, 1L << 55), Check.row(2, 2, 2, 2, 2));
         Check.bag("in the bag again", x, none, 1, Check.row(1, 1L << 55), Check.row(2, 2));
+    }
+
+    /**
+     * The two have 24 rows together, of which 8 are in both with multiplicities that add to 0;
+     * these come last, so that a bag that takes one row after the other has all 24 for a while.
+     */
+    private static void rowsThatCancelOutMakeRoom() {
+        DeltaViews x = new DeltaViews();
+        for (int c = 0; c < 4; c++) {
+            x.change(2, 5, c, 64);
+            x.change(0, 5, c + 2, 1);
+        }
+        x.commit();
+        Check.commitTo(x, 1, Check.r(5, 0, 3), Check.r(5, 1, 3), Check.r(5, 2, 3), Check.r(5, 3, 3));
+        int wide = 2;
+        for (int square = 0; square < 3; square++) {
+            wide = x.project(x.join(wide, wide, 0, 0), 2, 0x10);
+        }
+        Check.due("2 to the 62nd", x.times(wide, 3), 1L << 62);
+        int left = x.join(0, wide, 0, 0);
+        int right = x.join(1, wide, 0, 0);
+        Check.due("sixteen in both", x.rows(left) + x.rows(right), 32);
+        int both = x.union(left, right);
+        long[][] want = new long[16][];
+        for (int n = 0; n < 16; n++) {
+            want[n] = n < 8 ? Check.row(5, n / 4, 5, n % 4, 3L << 62)
+                    : Check.row(5, n / 4 + 2, 5, n % 4, 1L << 62);
+        }
+        Check.bag("sixteen are left", x, both, 4, want);
+        x.change(1, 5, 2, 1);
+        Check.state("four come back by a commit", () -> x.commit());
+        x.change(0, 5, 5, 3);
+        Check.due("rows go whose product is 0", x.commit(), 1);
+        Check.due("twelve are left", x.rows(both), 12);
+        Check.due("moved", x.moved(both), 4);
     }
 
     private static void wrongInputs() {
