@@ -40,7 +40,14 @@ final class Check {
         fails(what, java.util.NoSuchElementException.class, call);
     }
 
-    private static void fails(String what, Class<?> due, Call call) {
+    static void same(String what, String got, String want) {
+        looked++;
+        if (!got.equals(want)) {
+            complain(what + " is " + got + ", due is " + want);
+        }
+    }
+
+    static void fails(String what, Class<?> due, Call call) {
         looked++;
         String got;
         try {

@@ -4,6 +4,7 @@ public final class DistinctAndDropTest {
         distinct();
         distinctWrongInputs();
         drop();
+        dropOfAll();
         Check.end();
     }
 
@@ -66,5 +67,20 @@ public final class DistinctAndDropTest {
         x.drop();
         x.change(0, 1, 5, 1);
         Check.due("it is no more", x.commit(), 1);
+    }
+
+    /** "how many there are then": from 12 down to the tables alone. */
+    private static void dropOfAll() {
+        DeltaViews x = Check.withTable(Check.r(1, 2, 3));
+        Check.fillViews(x);
+        for (int left = 11; left >= 3; left--) {
+            int gone = left;
+            Check.due("left", x.drop(), left);
+            Check.index("it is no more", () -> x.width(gone));
+            Check.due("the one before is there", x.rows(left - 1), left > 3 ? 1 : 0);
+        }
+        Check.state("the tables alone", () -> x.drop());
+        Check.state("the tables alone, again", () -> x.drop());
+        Check.due("three still", x.distinct(0), 3);
     }
 }

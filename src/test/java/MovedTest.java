@@ -4,6 +4,8 @@ public final class MovedTest {
         rowsThatComeGoAndChange();
         onlyCommitsThatWereDone();
         sinceTheViewWasMade();
+        asManyAsCan();
+        latestOfSeveral();
         Check.end();
     }
 
@@ -67,5 +69,45 @@ public final class MovedTest {
         Check.commitTo(x, 0, Check.r(2, 2, 2));
         Check.due("distinct rows stay", x.moved(view), 0);
         Check.due("the table", x.moved(0), 1);
+    }
+
+    /** 16 rows go and 16 others come by four changes. */
+    private static void asManyAsCan() {
+        DeltaViews x = new DeltaViews();
+        for (int n = 0; n < 8; n++) {
+            x.change(0, 1, n, 1);
+        }
+        x.commit();
+        Check.commitTo(x, 1, Check.r(1, 0, 1), Check.r(1, 1, 1));
+        int join = x.join(0, 1, 0, 0);
+        Check.due("sixteen rows", x.rows(join), 16);
+        Check.due("none yet", x.moved(join), 0);
+        Check.commitTo(x, 1, Check.r(1, 0, -1), Check.r(1, 1, -1), Check.r(1, 2, 1), Check.r(1, 3, 1));
+        Check.due("all go and all come", x.moved(join), 32);
+        Check.due("the table", x.moved(1), 4);
+        Check.commitTo(x, 1, Check.r(1, 2, 98), Check.r(1, 3, 1));
+        Check.due("all have another multiplicity", x.moved(join), 16);
+        Check.commitTo(x, 1, Check.r(1, 2, -99), Check.r(1, 3, -2));
+        Check.due("all go", x.moved(join), 16);
+        Check.due("none left", x.rows(join), 0);
+    }
+
+    /** "by the latest commit that was done", not by all since the view was made. */
+    private static void latestOfSeveral() {
+        DeltaViews x = new DeltaViews();
+        int view = x.union(0, 1);
+        Check.commitTo(x, 0, Check.r(1, 1, 1), Check.r(2, 2, 2), Check.r(3, 3, 3));
+        Check.due("three", x.moved(view), 3);
+        Check.commitTo(x, 1, Check.r(1, 1, 1));
+        Check.due("one", x.moved(view), 1);
+        x.change(0, 1, 1, 1);
+        x.change(1, 1, 1, -1);
+        Check.due("two rows of tables", x.commit(), 2);
+        Check.due("the sum stays", x.moved(view), 0);
+        x.change(0, 9, 9, -1);
+        Check.state("thrown", () -> x.commit());
+        Check.due("the table still", x.moved(0), 1);
+        Check.due("an empty commit is done, too", x.commit(), 0);
+        Check.due("the table", x.moved(0), 0);
     }
 }
