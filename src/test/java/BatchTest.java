@@ -6,6 +6,7 @@ public final class BatchTest {
         orderOfExceptions();
         aThrowChangesNothing();
         cancelEmpties();
+        otherCallsLeaveTheBatch();
         Check.end();
     }
 
@@ -76,5 +77,24 @@ public final class BatchTest {
         x.commit();
         Check.bag("table", x, 0, 2, Check.row(7, 7, 7));
         Check.due("a commit empties it too", x.cancel(), 0);
+    }
+
+    private static void otherCallsLeaveTheBatch() {
+        DeltaViews x = Check.withTable(Check.r(1, 2, 3));
+        x.change(0, 1, 2, 4);
+        int[] made = {x.select(0, 0, 1, 1), x.project(0, 1, 0), x.join(0, 0, 0, 0), x.union(0, 1),
+            x.group(0, 1, 0, 0), x.distinct(0)};
+        for (int view : made) {
+            Check.due("the views see no change that waits", x.rows(view), 1);
+        }
+        Check.due("nor does the table", x.times(0, 0), 3);
+        Check.due("nor many", x.many(0, 1, 2, 0, 0), 3);
+        Check.due("it is no commit", x.moved(0), 1);
+        Check.due("a cell", x.cell(0, 0, 1), 2);
+        Check.due("a width", x.width(4), 1);
+        x.drop();
+        Check.due("the second change", x.change(0, 1, 2, 5), 2);
+        Check.due("both are made", x.commit(), 1);
+        Check.due("both are made", x.times(0, 0), 12);
     }
 }

@@ -255,13 +255,13 @@ public final class WrapTest {
         int both = x.union(sum, 2);
         int most = x.group(both, 2, 0, 1);
         Check.bag("the least alone", x, most, 2, Check.row(1, Integer.MIN_VALUE, 1));
-        x.change(2, 1, -1000, 1);
-        x.commit();
-        Check.bag("a greater one", x, most, 2, Check.row(1, -1000, 1));
         x.change(2, 1, 1000, 1);
         x.commit();
         Check.bag("a far greater one", x, most, 2, Check.row(1, 1000, 1));
         x.change(2, 1, 1000, -1);
+        x.change(2, 1, -1000, 1);
+        x.commit();
+        Check.bag("a greater one below 0", x, most, 2, Check.row(1, -1000, 1));
         x.change(2, 1, -1000, -1);
         x.commit();
         Check.bag("the least alone again", x, most, 2, Check.row(1, Integer.MIN_VALUE, 1));
