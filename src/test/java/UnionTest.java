@@ -5,6 +5,7 @@ public final class UnionTest {
         tooManyRows();
         sumsThatWrapToZero();
         rowsThatCancelOutMakeRoom();
+        tooManyThoughSomeCancelOut();
         wrongInputs();
         Check.end();
     }
@@ -106,6 +107,34 @@ public final class UnionTest {
         Check.due("rows go whose product is 0", x.commit(), 1);
         Check.due("twelve are left", x.rows(both), 12);
         Check.due("moved", x.moved(both), 4);
+    }
+
+    /** 16 rows, 12 others, and then four that cancel out: 24 are left, which are too many. */
+    private static void tooManyThoughSomeCancelOut() {
+        DeltaViews x = new DeltaViews();
+        for (int c = 0; c < 4; c++) {
+            x.change(2, 5, c, 64);
+            x.change(0, 5, c + 3, 1);
+        }
+        x.commit();
+        Check.commitTo(x, 1, Check.r(5, 2, 3), Check.r(5, 3, 3));
+        int wide = 2;
+        for (int square = 0; square < 3; square++) {
+            wide = x.project(x.join(wide, wide, 0, 0), 2, 0x10);
+        }
+        int left = x.join(0, wide, 0, 0);
+        int right = x.join(1, wide, 0, 0);
+        int both = x.union(left, right);
+        Check.due("16 and 8, of which four in both", x.rows(both), 16);
+        x.change(1, 5, 0, 3);
+        x.change(1, 5, 1, 3);
+        Check.state("24 by a commit", () -> x.commit());
+        Check.due("as before", x.rows(both), 16);
+        x.drop();
+        Check.commitTo(x, 1, Check.r(5, 0, 3), Check.r(5, 1, 3));
+        Check.due("sixteen", x.rows(right), 16);
+        Check.state("24 by making it", () -> x.union(left, right));
+        Check.state("24 the other way", () -> x.union(right, left));
     }
 
     private static void wrongInputs() {
